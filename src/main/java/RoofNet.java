@@ -433,12 +433,12 @@ public final class RoofNet {
 
         /** The place behind the ITEM, or NONE if it is not as it should be. */
         private int takeItem(Net net, Letters text, int start) {
-            char kind = text.at(start);
+            int kind = text.at(start);
             int behind = takeNumbers(text, start + 1, numbersOf(kind));
             return behind != NONE && addItem(net, kind) ? behind : NONE;
         }
 
-        private int numbersOf(char kind) {
+        private int numbersOf(int kind) {
             switch (kind) {
                 case 'f':
                     return 3;
@@ -474,7 +474,7 @@ public final class RoofNet {
             return howMany > 0 ? place : NONE;
         }
 
-        private boolean addItem(Net net, char kind) {
+        private boolean addItem(Net net, int kind) {
             switch (kind) {
                 case 'f':
                     return net.addFixed(numbers[0], numbers[1], numbers[2]);
@@ -961,8 +961,9 @@ public final class RoofNet {
         int pieces;
         int rollSize;
         int rollsUsed;
-        /** Made once, by the first call that FIRST FIT does not answer: most objects need none. */
-        private int[] bestOfSets;
+        final int[] leftOnTried = new int[MOST_STRANDS];
+        int rollsTried;
+        int mayBeLost;
 
         /** False if there is no way. */
         boolean firstFit(Net net, int[] lengths) {
@@ -1023,41 +1024,79 @@ public final class RoofNet {
         /** Behind a FIRST FIT that found a way. */
         int fewest() {
             int cut = rollsUsed * rollSize - leftOver();
-            // If even cuts without a rest would take as many, FIRST FIT can't be bettered.
-            if (cut > (rollsUsed - 1) * rollSize || rollsUsed <= 1) {
-                return rollsUsed;
-            }
-            return fewestBySets();
-        }
-
-        /**
-         * Of each set of pieces the least number of rolls and, with it, the least that is used of the
-         * last one; both in one number, the rolls above.
-         */
-        private int fewestBySets() {
-            if (bestOfSets == null) {
-                bestOfSets = new int[1 << MOST_STRANDS];
-            }
-            // One roll is open from the start, for a piece of 0 takes one too.
-            bestOfSets[0] = 1 << 16;
-            for (int set = 1; set < 1 << pieces; set++) {
-                int best = Integer.MAX_VALUE;
-                for (int k = 0; k < pieces; k++) {
-                    if (((set >> k) & 1) == 1) {
-                        best = Math.min(best, withPiece(bestOfSets[set & ~(1 << k)], pieceSizes[k]));
-                    }
+            for (int tried = leastThinkable(cut); tried < rollsUsed; tried++) {
+                for (int r = 0; r < tried; r++) {
+                    leftOnTried[r] = rollSize;
                 }
-                bestOfSets[set] = best;
+                rollsTried = tried;
+                mayBeLost = tried * rollSize - cut;
+                if (canPlaceFrom(this, 0)) {
+                    return tried;
+                }
             }
-            return bestOfSets[(1 << pieces) - 1] >> 16;
+            return rollsUsed;
         }
 
-        private int withPiece(int soFar, int size) {
-            int used = soFar & 0xffff;
-            if (used + size <= rollSize) {
-                return soFar + size;
+        /** A number of rolls, none if there are no pieces, below which there is surely no way. */
+        private int leastThinkable(int cut) {
+            int least = pieces == 0 ? 0 : 1;
+            if (rollSize <= 0) {
+                return least;
             }
-            return (((soFar >> 16) + 1) << 16) + size;
+            least = Math.max(least, (cut + rollSize - 1) / rollSize);
+            for (int k = 0; k < pieces && pieceSizes[k] > 0; k++) {
+                // The pieces up to this one are as long as it at least: so many of them go on a roll at most.
+                int onRoll = Math.max(1, rollSize / pieceSizes[k]);
+                least = Math.max(least, (k + onRoll) / onRoll);
+            }
+            return least;
+        }
+
+        /** Whether the pieces from k on can be cut from what is left on the rolls tried. */
+        private static boolean canPlaceFrom(Cutter cutter, int k) {
+            if (k >= cutter.pieces || k >= MOST_STRANDS) {
+                return true;
+            }
+            if (cutter.tooMuchIsLost()) {
+                return false;
+            }
+            int size = cutter.pieceSizes[k];
+            int[] left = cutter.leftOnTried;
+            for (int r = 0; r < cutter.rollsTried; r++) {
+                if (left[r] < size || cutter.isLikeOneAhead(r)) {
+                    continue;
+                }
+                left[r] -= size;
+                boolean placed = canPlaceFrom(cutter, k + 1);
+                left[r] += size;
+                // Where a piece uses up a roll, no other place for it can do better.
+                if (placed || left[r] == size) {
+                    return placed;
+                }
+            }
+            return false;
+        }
+
+        /** What is left on a roll is lost, if it is too short for the shortest piece. */
+        private boolean tooMuchIsLost() {
+            int shortest = pieces > 0 ? pieceSizes[pieces - 1] : 0;
+            int lost = 0;
+            for (int r = 0; r < rollsTried; r++) {
+                if (leftOnTried[r] < shortest) {
+                    lost += leftOnTried[r];
+                }
+            }
+            return lost > mayBeLost;
+        }
+
+        /** A roll with as much left as one ahead of it needs no second try. */
+        private boolean isLikeOneAhead(int r) {
+            for (int ahead = 0; ahead < r; ahead++) {
+                if (leftOnTried[ahead] == leftOnTried[r]) {
+                    return true;
+                }
+            }
+            return false;
         }
     }
 }

@@ -63,6 +63,7 @@ public final class AnewTest {
             due.is("move(2, " + axis + ", 60) again", net.move(2, axis, 60), RoofNet.NO);
             due.is("exact(2, " + axis + ", 0)", net.exact(2, axis, 0), 60);
         }
+        due.is("move(2, 1, 0)", net.move(2, 1, 0), 60);
         due.is("move(2, 1, 61)", net.move(2, 1, 61), RoofNet.BAD);
         due.is("move(2, 1, -1)", net.move(2, 1, -1), RoofNet.BAD);
         due.is("move(2, 3, 1)", net.move(2, 3, 1), RoofNet.BAD);
@@ -70,7 +71,7 @@ public final class AnewTest {
         due.is("move of a free one", net.move(4, 0, 1), RoofNet.BAD);
         due.is("move(6, 0, 1)", net.move(6, 0, 1), RoofNet.BAD);
         due.is("move(-1, 0, 1)", net.move(-1, 0, 1), RoofNet.BAD);
-        due.is("only true changes are kept", net.count(5), 3);
+        due.is("only true changes are kept", net.count(5), 4);
     }
 
     private static void down() {

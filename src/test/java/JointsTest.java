@@ -54,6 +54,12 @@ public final class JointsTest {
         net.load(2, 0);
         due.is("at both", net.joint(2, 7), 1);
         due.is("a fixed one", net.joint(0, 7), 1);
+        // Joint 3 is below joint 1 by less than a hundredth, and so are their hundredths alike.
+        RoofNet near = Due.laid("f50,49,19;u1;u15;u1;s0,1,1,6;s0,2,4,25;s2,3,1,0;s0,3,4,11;s1,3,4,34;s2,1,5,46;");
+        due.is("near: joint(1, 3)", near.joint(1, 3), 1001732);
+        due.is("near: joint(3, 3)", near.joint(3, 3), 1001732);
+        due.is("outside by exact places", near.joint(3, 7), 0);
+        due.is("the other one is within", near.joint(1, 7), 1);
     }
 
     private static void exact() {
@@ -72,6 +78,12 @@ public final class JointsTest {
         due.is("exact(0, -1, 0)", net.exact(0, -1, 0), EXACT_BAD);
         due.is("exact(0, 0, 2)", net.exact(0, 0, 2), EXACT_BAD);
         due.is("exact(0, 0, -1)", net.exact(0, 0, -1), EXACT_BAD);
+        RoofNet freeFirst = Due.laid("u13;f0,0,0;f4,2,1;s0,1,1,0;s2,0,3,0;");
+        due.is("free first: exact(0, 0, 0)", freeFirst.exact(0, 0, 0), 3);
+        due.is("free first: exact(0, 1, 0)", freeFirst.exact(0, 1, 0), 3);
+        due.is("free first: exact(0, 1, 1)", freeFirst.exact(0, 1, 1), 2);
+        due.is("free first: exact(0, 2, 0)", freeFirst.exact(0, 2, 0), 7);
+        due.is("free first: exact(0, 2, 1)", freeFirst.exact(0, 2, 1), 4);
         RoofNet chain = Due.laid("f60,0,60;u18;u18;u18;u18;u18;s0,1,1,0;s1,2,1,0;s2,3,1,0;s3,4,1,0;s4,5,1,0;");
         due.is("the highest there is", chain.exact(5, 2, 0), 60 + 45 + 36 + 27 + 18 + 9);
         due.is("as a whole one", chain.exact(5, 2, 1), 1);

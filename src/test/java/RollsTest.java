@@ -1,3 +1,5 @@
+import java.util.Random;
+
 /** Promises 22 to 24: rolls, rollOf, count. */
 public final class RollsTest {
     private static final Due due = new Due();
@@ -12,6 +14,10 @@ public final class RollsTest {
         ofNothing();
         loose();
         count();
+        int rows = args.length > 1 ? Integer.parseInt(args[1]) : 60;
+        for (int row = 1; row <= rows; row++) {
+            fewestOfMany(row);
+        }
         due.end();
     }
 
@@ -41,6 +47,15 @@ public final class RollsTest {
         RoofNet net = Due.laid("f0,0,0;f5,0,0;f0,5,0;s0,1,1,0;s0,2,1,0;r10,0;");
         due.is("a roll used up", net.rolls(0), 1);
         due.is("nothing left", net.rolls(2), 0);
+        RoofNet whole = Due.laid("f0,0,0;f5,0,0;s0,1,1,0;r5,0;");
+        due.is("a piece of a whole roll", whole.rolls(0), 1);
+        due.is("fewest of a whole roll", whole.rolls(1), 1);
+        RoofNet unlike = Due.laid("f0,0,0;f4,0,0;f0,7,0;s0,1,1,0;s0,2,1,0;r10,0;");
+        due.is("the shorter one behind", unlike.rollOf(0), 1);
+        due.is("the longer one ahead", unlike.rollOf(1), 0);
+        RoofNet three = Due.laid("f0,0,0;f6,0,0;f0,6,0;f0,0,6;s0,1,1,0;s0,2,1,0;s0,3,1,0;r10,0;");
+        due.is("no two fit on one", three.rolls(0), 3);
+        due.is("fewest, though two would hold the sum", three.rolls(1), 3);
         RoofNet loss = Due.laid("f0,0,0;f5,0,0;f0,5,0;s0,1,1,0;s0,2,1,0;r10,1;");
         due.is("with a loss", loss.rolls(0), 2);
         due.is("fewest with a loss", loss.rolls(1), 2);
@@ -95,5 +110,50 @@ public final class RollsTest {
         }
         due.is("count(-1)", net.count(-1), RoofNet.BAD);
         due.is("count(9)", net.count(9), RoofNet.BAD);
+    }
+
+    /** 14 strands between 7 fixed joints that are moved about, each time held against all sets of pieces. */
+    private static void fewestOfMany(int row) {
+        Random random = new Random(row);
+        StringBuilder text = new StringBuilder();
+        for (int j = 0; j < 7; j++) {
+            text.append("f0,0,0;");
+        }
+        for (int s = 0; s < 14; s++) {
+            text.append('s').append(s / 2).append(',').append((s / 2 + 1 + s % 2) % 7).append(",1,0;");
+        }
+        int far = 1 + random.nextInt(60);
+        text.append('r').append(Math.min(99, 1 + far / 2 + random.nextInt(3 * far))).append(',');
+        text.append(random.nextInt(3) == 0 ? random.nextInt(51) : 0).append(';');
+        RoofNet net = Due.laid(text.toString());
+        for (int moved = 0; moved < 60; moved++) {
+            net.move(random.nextInt(7), random.nextInt(3), random.nextInt(far + 1));
+            int[] pieces = new int[14];
+            for (int s = 0; s < 14; s++) {
+                pieces[s] = net.strand(s, 5) + net.count(8);
+            }
+            due.is("row " + row + ", rolls(1) behind " + moved, net.rolls(1), fewestBySets(pieces, 100 * net.count(7)));
+        }
+    }
+
+    /** Of each set of pieces the least of 100000 times the rolls and what is used of the last one. */
+    private static int fewestBySets(int[] pieces, int roll) {
+        int[] best = new int[1 << pieces.length];
+        best[0] = 100000;
+        for (int set = 1; set < best.length; set++) {
+            best[set] = Integer.MAX_VALUE;
+            for (int k = 0; k < pieces.length; k++) {
+                if (pieces[k] > roll) {
+                    return RoofNet.NONE;
+                }
+                if ((set >> k & 1) == 1) {
+                    int without = best[set & ~(1 << k)];
+                    boolean fits = without % 100000 + pieces[k] <= roll;
+                    int with = fits ? without + pieces[k] : (without / 100000 + 1) * 100000 + pieces[k];
+                    best[set] = Math.min(best[set], with);
+                }
+            }
+        }
+        return best[best.length - 1] / 100000;
     }
 }

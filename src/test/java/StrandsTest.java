@@ -54,6 +54,9 @@ public final class StrandsTest {
         net.want(2, 7);
         due.is("slack() of two", net.slack(), 6);
         due.is("miss() of three", net.miss(), 300);
+        net.want(0, 6);
+        due.is("slack() of three", net.slack(), 7);
+        net.undo();
         net.down(1, 1);
         due.is("slack() with one down", net.slack(), 4);
         due.is("miss() with one down", net.miss(), 200);
@@ -102,6 +105,9 @@ public final class StrandsTest {
         due.is("all is as wanted then", unwanted.better(1), 0);
         unwanted.down(0, 1);
         due.is("a strand alone can't be bettered", unwanted.better(0), RoofNet.NONE);
+        RoofNet thickest = Due.laid("f0,0,0;f20,0,0;u9;s0,2,1,0;s1,2,1,1;");
+        due.is("as thick as can be", thickest.better(0), 15);
+        due.is("as thick as can be: miss", thickest.better(1), 234);
         // Strand 0 of 4 or strand 1 of 1: joint 2 is at 6.66 of 20 either way.
         RoofNet twoWays = Due.laid("f0,0,0;f20,0,0;u9;s0,2,2,7;s1,2,2,0;");
         due.is("by the strand first", twoWays.better(0), 4);

@@ -64,7 +64,7 @@ public final class ToldTest {
     }
 
     private static void fault() {
-        due.faultOf("f60,0,60;", RoofNet.NONE);
+        due.faultOf("f60,60,60;", RoofNet.NONE);
         due.faultOf("f61,0,0;", 0);
         due.faultOf("f0,61,0;", 0);
         due.faultOf("f0,0,61;", 0);
@@ -143,6 +143,7 @@ public final class ToldTest {
         due.is("the last R counts", net.count(7), 9);
         due.is("the last E counts", net.count(8), 0);
         due.is("no strand stays", net.count(2), 0);
+        due.is("none hangs", net.count(3), 0);
         net.wipe();
         Due.write(net, "f1,1,1;");
         due.is("lay() of one fixed joint", net.lay(), 1);
