@@ -616,7 +616,7 @@ public final class RoofNet {
         /** As bits, FIXED ones too, if just the given strands hang. */
         int hungJoints(int given) {
             int hung = ((1 << joints) - 1) & ~free;
-            // Each pass but the last hangs one more joint, so so many are enough.
+            // Each pass but the last hangs one more joint, so joints passes are enough.
             for (int pass = 0; pass < joints; pass++) {
                 int before = hung;
                 for (int s = 0; s < strands; s++) {
