@@ -11,6 +11,14 @@ final class Due {
         }
     }
 
+    void same(String when, String got, String due) {
+        asked++;
+        if (!got.equals(due)) {
+            wrong++;
+            System.out.println(when + " all is\n" + got + "due is\n" + due);
+        }
+    }
+
     /** Writes the text behind what stands there already. */
     static void write(RoofNet net, String text) {
         for (int i = 0; i < text.length(); i++) {

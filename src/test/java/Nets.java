@@ -1,0 +1,39 @@
+/** Texts that several tests lay. */
+final class Nets {
+    /** 200 letters, 10 joints, 5 of them free, 14 strands: as large as can be. */
+    static final String FULL = "f10,60,8;f60,1,30;f1,1,60;f33,9,2;f19,19,19;u1;u3;u18;u9;u5;"
+        + "s0,5,1,19;s1,5,2,0;s2,5,3,30;s3,6,1,18;s5,6,2,29;s6,7,3,22;s7,8,4,9;s8,9,5,40;s9,0,1,7;s9,1,2,0;s8,2,3,9;"
+        + "s7,3,4,9;s7,1,5,9;s9,4,1,60;r99,50;";
+    /** What a new object is told. */
+    static final String FIRST = "f0,0,10;f40,0,30;f0,40,20;f40,40,5;u9;u4;"
+        + "s0,4,1,30;s1,4,2,0;s4,5,3,18;s2,5,1,25;s3,5,2,30;r60,5;";
+    /** Joint 1 is loose as soon as strand 1 is down; strand 0 is between fixed ones. */
+    static final String LOOSE = "f3,4,5;u12;f6,8,5;s0,2,2,6;s0,1,3,5;r20,7;";
+
+    private Nets() {
+    }
+
+    static void layFull(RoofNet net) {
+        Due.write(net, FULL);
+        net.lay();
+    }
+
+    static void layLoose(RoofNet net) {
+        Due.write(net, LOOSE);
+        net.lay();
+        net.want(0, 7);
+        net.down(1, 1);
+        net.density(0, 3);
+    }
+
+    /** The net of a new object behind one change of each kind, with a text that is not laid. */
+    static void changeFirst(RoofNet net) {
+        net.density(0, 4);
+        net.want(1, 17);
+        net.load(4, -5);
+        net.move(2, 1, 33);
+        net.down(3, 1);
+        net.round(2);
+        Due.write(net, "f1,2,3;u7;s0,1,4,9;");
+    }
+}
