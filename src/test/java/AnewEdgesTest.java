@@ -6,9 +6,6 @@ public final class AnewEdgesTest {
     private static final int BAD = RoofNet.BAD, NO = RoofNet.NO;
     private static final Due due = new Due();
     private static final Twins twins = new Twins(due);
-    /** Lengths 5099, 4901, 5000 (the root is cut), 5000: one below, one above and two as wanted. */
-    private static final String NEAR = "f0,0,0;f50,10,0;f49,1,0;f50,1,0;f50,0,0;"
-        + "s0,1,3,51;s0,2,3,49;s0,3,3,50;s0,4,3,50;";
 
     public static void main(String[] args) {
         densityFrom1To5();
@@ -211,13 +208,13 @@ public final class AnewEdgesTest {
 
     /** "with LENGTH above 100 W its DENSITY is 1 more, below 100 W 1 less". */
     private static void lengthsAboveAtAndBelow() {
-        RoofNet net = Due.laid(NEAR);
+        RoofNet net = Due.laid(Nets.NEAR);
         due.is("round(1) of near ones", net.round(1), 1);
         due.is("a hundredth below", net.strand(0, 2), 2);
         due.is("a hundredth above", net.strand(1, 2), 4);
         due.is("as wanted, cut", net.strand(2, 2), 3);
         due.is("as wanted", net.strand(3, 2), 3);
-        RoofNet unwanted = Due.laid(NEAR);
+        RoofNet unwanted = Due.laid(Nets.NEAR);
         unwanted.want(0, 0);
         unwanted.down(1, 1);
         due.is("nothing wanted, or down: round(1)", unwanted.round(1), 0);

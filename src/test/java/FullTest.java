@@ -1,33 +1,62 @@
-/** Promises 4, 5 and 13 to 24 on a net as large as can be: 10 joints, 5 of them free, 14 strands. */
+/** Promises 4, 5 and 13 to 24 on a net as large as can be: 200 letters, 10 joints, 5 of them free, 14 strands. */
 public final class FullTest {
     private static final Due due = new Due();
-    private static final String TEXT = "f1,60,8;f60,1,30;f1,1,60;f33,9,2;f9,9,9;u1;u3;u18;u9;u5;"
-        + "s0,5,1,9;s1,5,2,0;s2,5,3,30;s3,6,1,8;s5,6,2,9;s6,7,3,22;s7,8,4,9;s8,9,5,40;s9,0,1,7;s9,1,2,0;s8,2,3,9;"
-        + "s7,3,4,9;s7,1,5,9;s9,4,1,60;r99,50;";
+    private static final int NO_STRAND = -1;
+    private final String when;
+    private final int down;
+    private final int rounds;
+    private final boolean undone;
+    private RoofNet net;
+    private NaiveNet naive;
+
+    private FullTest(String when, int down, int rounds, boolean undone) {
+        this.when = when;
+        this.down = down;
+        this.rounds = rounds;
+        this.undone = undone;
+    }
 
     public static void main(String[] args) {
-        RoofNet net = new RoofNet();
-        NaiveNet naive = new NaiveNet();
-        for (int i = 0; i < TEXT.length(); i++) {
-            due.is("write", net.write(TEXT.charAt(i)), naive.write(TEXT.charAt(i)));
+        new FullTest("at first", NO_STRAND, 0, false).askAll();
+        for (int s = 13; s >= 0; s--) {
+            new FullTest("with " + s + " down", s, 0, false).askAll();
+            new FullTest("with " + s + " down and hung again", s, 0, true).askAll();
+        }
+        new FullTest("behind 3 rounds", NO_STRAND, 3, false).askAll();
+        new FullTest("behind 3 rounds, undone", NO_STRAND, 3, true).askAll();
+        due.end();
+    }
+
+    /** New objects for each lot of questions, so that none comes to its 512th call. */
+    private void askAll() {
+        tell();
+        askJoints();
+        tell();
+        askStrands();
+        askTheRest();
+    }
+
+    private void tell() {
+        net = new RoofNet();
+        naive = new NaiveNet();
+        for (int i = 0; i < Nets.FULL.length(); i++) {
+            due.is("write", net.write(Nets.FULL.charAt(i)), naive.write(Nets.FULL.charAt(i)));
         }
         due.is("fault()", net.fault(), RoofNet.NONE);
         due.is("lay()", net.lay(), 10);
         due.is("lay() of the other", naive.lay(), 10);
-        askAll(net, naive, "at first");
-        for (int s = 13; s >= 0; s--) {
-            due.is("down", net.down(s, 1), naive.down(s, 1));
-            askAll(net, naive, "with " + s + " down");
+        if (down != NO_STRAND) {
+            due.is("down", net.down(down, 1), naive.down(down, 1));
+        }
+        if (rounds > 0) {
+            due.is("round", net.round(rounds), naive.round(rounds));
+        }
+        if (undone) {
             due.is("undo", net.undo(), naive.undo());
         }
-        due.is("round(3)", net.round(3), naive.round(3));
-        askAll(net, naive, "behind 3 rounds");
-        due.is("undo", net.undo(), naive.undo());
-        askAll(net, naive, "as at first");
-        due.end();
     }
 
-    private static void askAll(RoofNet net, NaiveNet naive, String when) {
+    private void askJoints() {
         for (int j = -1; j <= 10; j++) {
             for (int what = -1; what <= 8; what++) {
                 due.is(when + ": joint(" + j + ", " + what + ")", net.joint(j, what), naive.joint(j, what));
@@ -38,12 +67,18 @@ public final class FullTest {
                 due.is(when + ": bears(" + j + ", " + axis + ")", net.bears(j, axis), naive.bears(j, axis));
             }
         }
+    }
+
+    private void askStrands() {
         for (int s = -1; s <= 14; s++) {
             for (int what = -1; what <= 9; what++) {
                 due.is(when + ": strand(" + s + ", " + what + ")", net.strand(s, what), naive.strand(s, what));
             }
             due.is(when + ": rollOf(" + s + ")", net.rollOf(s), naive.rollOf(s));
         }
+    }
+
+    private void askTheRest() {
         due.is(when + ": slack()", net.slack(), naive.slack());
         due.is(when + ": miss()", net.miss(), naive.miss());
         for (int what = -1; what <= 9; what++) {

@@ -110,11 +110,13 @@ public final class JointEdgesTest {
             due.is("joint(" + j + ", 5)", net.joint(j, 5), loads[j]);
         }
         RoofNet laidAgain = Due.laid("u0;u18;");
-        laidAgain.wipe();
-        Due.write(laidAgain, "f1,1,1;f2,2,2;");
-        laidAgain.lay();
-        due.is("a fixed one where a free one was", laidAgain.joint(0, 5), 9);
-        due.is("another one", laidAgain.joint(1, 5), 9);
+        for (int times = 1; times <= 3; times++) {
+            laidAgain.wipe();
+            Due.write(laidAgain, "f1,1,1;f2,2,2;");
+            laidAgain.lay();
+            due.is("a fixed one where a free one was", laidAgain.joint(0, 5), 9);
+            due.is("another one", laidAgain.joint(1, 5), 9);
+        }
     }
 
     /** "a row of STRANDS that hang, one behind the other, over FREE JOINTS leads to a FIXED one". */
@@ -205,6 +207,10 @@ public final class JointEdgesTest {
                 due.is("along Y", net.joint(1, 2), MORE);
             }
         }
+        RoofNet first = Due.laid("u5;f1,2,3;s0,1,2,0;");
+        due.is("the first joint, a free one", first.joint(0, 3), MORE + 100);
+        RoofNet last = Due.laid("f1,2,3;".repeat(9) + "u5;s9,8,2,0;");
+        due.is("the last joint of ten, a free one", last.joint(9, 3), MORE + 100);
         due.is("a third below 0", Due.laid("f0,0,0;u8;s0,1,3,0;").joint(1, 3), MORE - 34);
         due.is("a quarter below 0", Due.laid("f0,0,0;u8;s0,1,4,0;").joint(1, 3), MORE - 25);
         RoofNet thirds = Due.laid("f0,1,0;f1,0,0;u9;s0,2,2,0;s1,2,1,0;");

@@ -63,8 +63,10 @@ public final class ModelTest {
         for (int i = 0; i < text.length() && calls < MOST_CALLS; i++) {
             hold("write", net.write(text.charAt(i)), naive.write(text.charAt(i)));
         }
-        hold("fault()", net.fault(), naive.fault());
-        hold("lay()", net.lay(), naive.lay());
+        if (calls + 2 <= MOST_CALLS) {
+            hold("fault()", net.fault(), naive.fault());
+            hold("lay()", net.lay(), naive.lay());
+        }
     }
 
     private String text() {

@@ -9,6 +9,9 @@ final class Nets {
         + "s0,4,1,30;s1,4,2,0;s4,5,3,18;s2,5,1,25;s3,5,2,30;r60,5;";
     /** Joint 1 is loose as soon as strand 1 is down; strand 0 is between fixed ones. */
     static final String LOOSE = "f3,4,5;u12;f6,8,5;s0,2,2,6;s0,1,3,5;r20,7;";
+    /** Lengths 5099, 4901, 5000 (the root is cut), 5000: one below, one above and two as wanted. */
+    static final String NEAR = "f0,0,0;f50,10,0;f49,1,0;f50,1,0;f50,0,0;"
+        + "s0,1,3,51;s0,2,3,49;s0,3,3,50;s0,4,3,50;";
 
     private Nets() {
     }

@@ -19,6 +19,8 @@ public final class RollEdgesTest {
         likeOnesByNumber();
         aRollForEach();
         fewestBelowFirstFit();
+        fewestAsFirstFit();
+        fewestOfTwelve();
         fewestByAHundredth();
         downIsNotCut();
         counts();
@@ -175,6 +177,10 @@ public final class RollEdgesTest {
         RoofNet falling = Due.laid("f0,0,0;f1,0,0;f2,0,0;f3,0,0;f4,0,0;s0,4,1,0;s0,3,1,0;s0,2,1,0;s0,1,1,0;r5,0;");
         rollsAre("4, 3, 2, 1", falling, 2, 2, 0);
         rollsOf("4, 3, 2, 1", falling, 0, 1, 1, 0);
+        // 6, 2, 3 from rolls of 9: the 3 takes what the 6 leaves, though the 2 is told ahead of it.
+        RoofNet mixed = Due.laid("f0,0,0;f6,0,0;f2,0,0;f3,0,0;s0,1,1,0;s0,2,1,0;s0,3,1,0;r9,0;");
+        rollsAre("6, 2, 3", mixed, 2, 2, 700);
+        rollsOf("6, 2, 3", mixed, 0, 1, 0);
         // 4801 and 5099: longer by a little is first.
         RoofNet near = Due.laid("f0,0,0;f50,10,0;f48,1,0;s0,2,1,0;s0,1,1,0;r60,0;");
         rollsOf("the longer one is told last", near, 1, 0);
@@ -210,6 +216,31 @@ public final class RollEdgesTest {
         rollsAre("six, a hundredth lost of each", Due.laid(six + "r10,1;"), 3, 3, 3000 - 2006);
         rollsAre("six on longer rolls", Due.laid(six + "r11,0;"), 2, 2, 200);
         rollsAre("six on one", Due.laid(six + "r20,0;"), 1, 1, 0);
+    }
+
+    /** Two rolls would hold 4, 4, 4, 3, 3 by their sum and by their number, but no two and no three of them make 9. */
+    private static void fewestAsFirstFit() {
+        String five = "f0,0,0;f4,0,0;f0,4,0;f0,0,4;f3,0,0;f0,3,0;s0,4,1,0;s0,1,1,0;s0,2,1,0;s0,5,1,0;s0,3,1,0;";
+        rollsAre("five on rolls of 9", Due.laid(five + "r9,0;"), 3, 3, 900);
+        rollsOf("five on rolls of 9", Due.laid(five + "r9,0;"), 1, 0, 0, 2, 1);
+        rollsAre("five on rolls of 10", Due.laid(five + "r10,0;"), 2, 2, 200);
+        rollsAre("five on rolls of 10, a hundredth lost of each", Due.laid(five + "r10,1;"), 3, 3, 3000 - 1805);
+    }
+
+    /** Four of 4 and eight of 3 make four rolls of 10 without rest. */
+    private static void fewestOfTwelve() {
+        StringBuilder text = new StringBuilder("f0,0,0;f0,0,0;f4,0,0;f4,0,0;" + "f0,3,0;".repeat(4));
+        for (int s = 0; s < 12; s++) {
+            text.append('s').append(s % 2).append(',').append(2 + s / 2).append(",1,0;");
+        }
+        RoofNet net = Due.laid(text + "r10,0;");
+        rollsAre("twelve", net, 5, 4, 1000);
+        rollsOf("twelve", net, 0, 0, 1, 1, 2, 2, 2, 3, 3, 3, 4, 4);
+        rollsAre("twelve, a hundredth lost of each", Due.laid(text + "r10,1;"), 5, 5, 5000 - 4012);
+        net.down(11, 1);
+        rollsAre("eleven", net, 5, 4, 1300);
+        net.down(10, 1);
+        rollsAre("ten", net, 4, 4, 600);
     }
 
     /** The fewest depend on a hundredth: two thirds and a third of a roll, more or less. */

@@ -3,9 +3,6 @@ public final class StrandEdgesTest {
     private static final int BAD = RoofNet.BAD, NO = RoofNet.NO, NONE = RoofNet.NONE;
     private static final Due due = new Due();
     private static final Twins twins = new Twins(due);
-    /** Lengths 5099, 4901, 5000 (the root is cut), 5000: one below, one above and two as wanted. */
-    private static final String NEAR = "f0,0,0;f50,10,0;f49,1,0;f50,1,0;f50,0,0;"
-        + "s0,1,3,51;s0,2,3,49;s0,3,3,50;s0,4,3,50;";
 
     public static void main(String[] args) {
         numbersOfStrand();
@@ -52,11 +49,11 @@ public final class StrandEdgesTest {
 
     /** what = 0 or 1; "Of several the first in this order": BAD ahead of NO and of NONE. */
     private static void numbersOfTheOthers() {
-        twins.range("settle(what)", 0, 1, BAD, what -> Due.laid(NEAR).settle(what));
+        twins.range("settle(what)", 0, 1, BAD, what -> Due.laid(Nets.NEAR).settle(what));
         twins.range("never settled: settle(what)", 0, 1, BAD, what -> new RoofNet().settle(what));
         twins.range("loose: settle(what)", 0, 1, BAD, what -> loose().settle(what));
         twins.range("better(what)", 0, 1, BAD, what -> new RoofNet().better(what));
-        twins.range("none better: better(what)", 0, 1, BAD, what -> Due.laid(NEAR).better(what));
+        twins.range("none better: better(what)", 0, 1, BAD, what -> Due.laid(Nets.NEAR).better(what));
         twins.range("loose: better(what)", 0, 1, BAD, what -> loose().better(what));
         twins.range("greatest(what)", 0, 1, BAD, what -> new RoofNet().greatest(what));
         twins.range("none hangs: greatest(what)", 0, 1, BAD, what -> Due.laid("f1,1,1;").greatest(what));
@@ -100,7 +97,7 @@ public final class StrandEdgesTest {
 
     /** "NONE (5 to 8): it is DOWN". */
     private static void noneOfOneThatIsDown() {
-        RoofNet net = Due.laid(NEAR);
+        RoofNet net = Due.laid(Nets.NEAR);
         net.down(0, 1);
         int[] due0 = {0, 1, 3, 51, 1, NONE, NONE, NONE, NONE};
         for (int what = 0; what <= 8; what++) {
@@ -119,7 +116,7 @@ public final class StrandEdgesTest {
 
     /** "NONE: (7) nothing is WANTED". */
     private static void noneWhereNothingIsWanted() {
-        RoofNet net = Due.laid(NEAR);
+        RoofNet net = Due.laid(Nets.NEAR);
         net.want(0, 0);
         due.is("nothing wanted: strand(0, 5)", net.strand(0, 5), 5099);
         due.is("nothing wanted: strand(0, 6)", net.strand(0, 6), 3 * 5099);
@@ -171,7 +168,7 @@ public final class StrandEdgesTest {
 
     /** "OFF: LENGTH less 100 W, made positive. SLACK is such a one with LENGTH below 100 W." */
     private static void offAndSlack() {
-        RoofNet net = Due.laid(NEAR);
+        RoofNet net = Due.laid(Nets.NEAR);
         int[] offs = {1, 1, 0, 0};
         for (int s = 0; s < 4; s++) {
             due.is("near: strand(" + s + ", 7)", net.strand(s, 7), offs[s]);
@@ -265,8 +262,8 @@ public final class StrandEdgesTest {
 
     /** "by which MISS is least, and less than it is"; "NONE: there is none." */
     private static void betterIsLess() {
-        due.is("as much alone is not better", Due.laid(NEAR).better(0), NONE);
-        due.is("as much alone is not better: miss", Due.laid(NEAR).better(1), NONE);
+        due.is("as much alone is not better", Due.laid(Nets.NEAR).better(0), NONE);
+        due.is("as much alone is not better: miss", Due.laid(Nets.NEAR).better(1), NONE);
         due.is("better(0) without strands", Due.laid("f1,1,1;").better(0), NONE);
         RoofNet none = Due.laid("f0,0,0;f60,0,0;u9;s0,2,1,0;s1,2,1,0;");
         due.is("nothing is wanted", none.better(0), NONE);
