@@ -12,6 +12,12 @@ final class Nets {
     /** Lengths 5099, 4901, 5000 (the root is cut), 5000: one below, one above and two as wanted. */
     static final String NEAR = "f0,0,0;f50,10,0;f49,1,0;f50,1,0;f50,0,0;"
         + "s0,1,3,51;s0,2,3,49;s0,3,3,50;s0,4,3,50;";
+    /** Found by a long search, as nearly all nets rest sooner or never do: the 60th round is the last that changes. */
+    static final String SETTLES_BEHIND_60 = "f46,52,9;f3,7,0;f28,33,8;u15;u16;u3;"
+        + "s5,4,3,0;s3,5,5,13;s3,2,1,3;s4,2,3,13;s3,1,5,39;s3,0,4,30;s5,0,1,14;s4,0,1,10;";
+    /** Likewise the 64th: behind 3 rounds 61 are left, behind 4 of them 60. */
+    static final String SETTLES_BEHIND_64 = "f2,6,29;f58,39,13;u3;u14;u5;u18;u6;s2,6,3,1;s6,1,4,22;s2,1,3,20;"
+        + "s5,6,4,29;s2,5,4,20;s4,1,5,73;s3,1,4,17;s5,0,3,21;s4,0,1,24;s6,3,1,2;s3,4,1,18;s3,2,2,5;s4,5,4,7;";
 
     private Nets() {
     }

@@ -16,6 +16,8 @@ public final class StrandEdgesTest {
         missOfNoneAndOfAll();
         neededOrNot();
         settledBehindNone();
+        settledBehind60();
+        settledBehindNoMoreThan60();
         neverSettled();
         betterIsLess();
         betterOfSeveral();
@@ -251,6 +253,43 @@ public final class StrandEdgesTest {
             due.is("down from " + q + ": settle(0)", down.settle(0), q - 1);
             due.is("down from " + q + ": settle(1)", down.settle(1), 100);
         }
+    }
+
+    /** "(0 to 60)", "(behind 60 the 61st)": the last number that there is, and each below it. */
+    private static void settledBehind60() {
+        RoofNet net = Due.laid(Nets.SETTLES_BEHIND_60);
+        for (int done = 0; done <= 60; done++) {
+            due.is("behind " + done + " rounds: settle(0)", net.settle(0), 60 - done);
+            due.is("behind " + done + " rounds: settle(1)", net.settle(1), 1279);
+            due.is("round " + (done + 1), net.round(1), done < 60 ? 1 : 0);
+        }
+        due.is("miss() then", net.miss(), 1279);
+        RoofNet byTwenty = Due.laid(Nets.SETTLES_BEHIND_60);
+        for (int done = 20; done <= 60; done += 20) {
+            due.is("rounds up to " + done, byTwenty.round(20), 20);
+        }
+        due.is("the 61st changes nothing", byTwenty.round(20), 0);
+        twins.leavesAll("settled behind 60: settle(0)", one -> {
+            Due.write(one, Nets.SETTLES_BEHIND_60);
+            one.lay();
+        }, 60, one -> one.settle(0));
+    }
+
+    /** "NONE: they do not to 60": rounds that come to rest behind 61 and more are not told. */
+    private static void settledBehindNoMoreThan60() {
+        RoofNet net = Due.laid(Nets.SETTLES_BEHIND_64);
+        for (int done = 0; done <= 64; done++) {
+            int left = 64 - done;
+            due.is("of 64, behind " + done + ": settle(0)", net.settle(0), left <= 60 ? left : NONE);
+            due.is("of 64, behind " + done + ": settle(1)", net.settle(1), left <= 60 ? 6733 : NONE);
+            due.is("of 64, round " + (done + 1), net.round(1), left > 0 ? 1 : 0);
+        }
+        due.is("of 64, miss() then", net.miss(), 6733);
+        twins.leavesAll("settled behind 61: settle(0)", one -> {
+            Due.write(one, Nets.SETTLES_BEHIND_64);
+            one.lay();
+            one.round(3);
+        }, NONE, one -> one.settle(0));
     }
 
     /** "NONE: they do not to 60." */
