@@ -22,6 +22,7 @@ public final class RollEdgesTest {
         fewestAsFirstFit();
         fewestOfTwelve();
         fewestByAHundredth();
+        nothingIsLeftOfALargerNet();
         downIsNotCut();
         counts();
         askingChangesNothing();
@@ -251,6 +252,39 @@ public final class RollEdgesTest {
         RoofNet lost = Due.laid("f0,0,0;f1,0,0;u9;s0,2,2,0;s1,2,1,0;r1,1;");
         rollsAre("34 and 68", lost, 2, 2, 98);
         rollsOf("34 and 68", lost, 1, 0);
+    }
+
+    /** What was cut ahead, more pieces or shorter rolls, has no part in what is cut behind lay or down. */
+    private static void nothingIsLeftOfALargerNet() {
+        String six = "f0,0,0;f4,0,0;f0,4,0;f3,0,0;f0,3,0;f0,0,3;f0,0,6;"
+            + "s0,1,1,0;s0,2,1,0;s0,3,1,0;s0,4,1,0;s0,5,1,0;s5,6,1,0;r10,0;";
+        RoofNet fewer = Due.laid(FOURTEEN + "r1,0;");
+        rollsAre("fourteen ahead", fewer, 14, 14, 0);
+        layInstead(fewer, six);
+        rollsAre("six behind fourteen", fewer, 3, 2, 1000);
+        StringBuilder twelve = new StringBuilder("f0,0,0;f0,0,0;f4,0,0;f4,0,0;" + "f0,3,0;".repeat(4));
+        for (int s = 0; s < 12; s++) {
+            twelve.append('s').append(s % 2).append(',').append(2 + s / 2).append(",1,0;");
+        }
+        RoofNet longer = Due.laid(twelve + "r10,0;");
+        rollsAre("twelve ahead", longer, 5, 4, 1000);
+        // 36, 36 and four of 27 from rolls of 90: each piece is longer than a roll was ahead.
+        layInstead(longer, "f0,0,0;f36,0,0;f0,36,0;f27,0,0;f0,27,0;f0,0,27;f0,0,54;"
+            + "s0,1,1,0;s0,2,1,0;s0,3,1,0;s0,4,1,0;s0,5,1,0;s5,6,1,0;r90,0;");
+        rollsAre("longer ones behind twelve", longer, 3, 2, 9000);
+        // Seven pieces with one of 9, of which the other six are left when it is down.
+        RoofNet down = Due.laid(six.replace("f0,0,6;", "f0,0,6;f9,0,0;").replace("r10", "s0,7,1,0;r10"));
+        rollsAre("seven", down, 4, 3, 1100);
+        down.down(6, 1);
+        rollsAre("six of seven", down, 3, 2, 1000);
+        down.down(6, 0);
+        rollsAre("seven again", down, 4, 3, 1100);
+    }
+
+    private static void layInstead(RoofNet net, String text) {
+        net.wipe();
+        Due.write(net, text);
+        due.is("lay() of " + text, net.lay() > 0 ? 1 : 0, 1);
     }
 
     /** "NONE: it is DOWN, there is no way." */
