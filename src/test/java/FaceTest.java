@@ -98,5 +98,36 @@ public final class FaceTest {
         }
         String signs = source.replaceAll("[\\x20-\\x7e\\n]", "");
         due.is("signs beyond ASCII", signs.length(), 0);
+        library(code);
+        methodsStayShort(code);
+    }
+
+    /** Rule 4: of the library only what stands there, and of that what the program uses. */
+    private static void library(String code) {
+        Set<String> used = Set.of("Math.min", "Math.max", "Math.abs", "Math.floorDiv", "Integer.bitCount",
+            "Integer.compare", "System.arraycopy");
+        Matcher matcher = Pattern.compile("\\b(?!RoofNet\\b)[A-Z]\\w*[a-z]\\w*\\.\\w+").matcher(code);
+        while (matcher.find()) {
+            due.is("of the library: " + matcher.group(), used.contains(matcher.group()) ? 1 : 0, 1);
+        }
+    }
+
+    /** Rule 11: "Methods stay short (some sixty lines)". A method ends with a brace as far in as its first line. */
+    private static void methodsStayShort(String code) {
+        Pattern first = Pattern.compile("( {4}(?: {4})?)(?!(?:if|for|while|switch) )\\w.*\\) \\{");
+        String[] lines = code.split("\n");
+        int methods = 0;
+        for (int i = 0; i < lines.length; i++) {
+            Matcher matcher = first.matcher(lines[i]);
+            if (matcher.matches()) {
+                methods++;
+                int end = i;
+                while (end < lines.length && !lines[end].equals(matcher.group(1) + "}")) {
+                    end++;
+                }
+                due.is(lines[i].trim() + " stays short", end - i < 60 ? 1 : 0, 1);
+            }
+        }
+        due.is("methods are found", methods >= METHODS.size() ? 1 : 0, 1);
     }
 }
